@@ -728,7 +728,7 @@ public final class CloudBench {
             for (int i = 0; i < size; i++) {
                 total *= i + 1;
                 for (int j = 0; j < i; j++) {
-                    boolean inOrder = a.numbers[j] < a.numbers[i] == b.numbers[j] < b.numbers[i];
+                    boolean inOrder = (a.numbers[j] < a.numbers[i]) == (b.numbers[j] < b.numbers[i]);
                     score += inOrder ? 1 : -1;
                 }
             }
