@@ -37,6 +37,7 @@ public final class EdgesOfQuestionsTest {
         scoresAtTheirEnds();
         scoresOfAlikeNumbers();
         mostAtItsEnds();
+        mostOfNumbersInBoth();
         totalsAtTheirEnds();
         noDifferencesAtAll();
         oneDifference();
@@ -381,6 +382,22 @@ public final class EdgesOfQuestionsTest {
         run.due("score 2 2 1", 20);
         // one of 20 in a, the one of b at the same number
         run.due("score 2 0 2", 19);
+    }
+
+    private static void mostOfNumbersInBoth() {
+        Run run = new Run("Term 2: MOST, how many are x at most, alike ones all at once");
+        run.puts(0, 1, 2);
+        run.puts(1, 1, 2);
+        // both 1 or both 2 chosen: 4; one of each: 0
+        run.due("score 2 0 1", 0);
+        run.due("count 2 0 1 0", 6);
+        run.due("count 2 0 1 1", 4);
+        run.due("count 2 0 1 2", 6);
+        run.due("spread 2 0 1", 2);
+        run.due("row 0 0", 0);
+        run.due("row 0 1", 4);
+        run.due("row 1 0", 4);
+        run.due("row 1 1", 2);
     }
 
     // Promise 9: TOTAL, at its ends

@@ -196,6 +196,13 @@ public final class EdgesOfSpansTest {
         ends(run, -3, 10, 1, 6);
         run.due("span 0 1 199 996", 0);
         ends(run, 0, 0, 0, 6);
+        // fewer differences than the earlier span had
+        run.puts(2, 9);
+        run.puts(3, 3);
+        run.due("span 2 3 999 1000", 0);
+        ends(run, 0, 0, 0, 12);
+        run.due("span 2 1 1 2", 0);
+        ends(run, 0, 0, 0, 14);
     }
 
     private static void middleOfOddAndEven() {

@@ -28,6 +28,7 @@ public final class EdgesOfTablesTest {
         firstCountAtItsLeast();
         firstCountAtItsGreatest();
         firstCountThatCannotChange();
+        marginsOfTheTableAsItIs();
         Run.end("the edges of the tables");
     }
 
@@ -317,5 +318,22 @@ public final class EdgesOfTablesTest {
         margins(run, 20, 9, 20, 4, 20, 20);
         fill(run, of(0, 0, 0), of(0, 2, 1), of(0, 1, 2));
         margins(run, 20, 9, 20, 4, 20, 20);
+    }
+
+    // Promise 18: of the TABLE, as it is at each call, whichever what is asked first
+
+    private static void marginsOfTheTableAsItIs() {
+        long[] tall = {20, 4, 8, 3, 4, 20};
+        long[] wide = {35, 4, 9, 6, 5, 35};
+        for (int what = 0; what <= 5; what++) {
+            Run run = new Run("Promise 18: of the TABLE, what " + what + " alone");
+            run.still("margins " + what, 1);
+            fill(run, of(2, 1), of(0, 3));
+            run.still("margins " + what, tall[what]);
+            fill(run, of(2, 1, 0), of(0, 3, 1));
+            run.still("margins " + what, wide[what]);
+            run.due("table 2 2", true);
+            run.still("margins " + what, 1);
+        }
     }
 }

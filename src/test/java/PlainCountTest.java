@@ -37,33 +37,73 @@ public final class PlainCountTest {
         }
     }
 
-    /** Samples as full as they may be, every test, side and row. */
+    /** Samples as full as they may be, every test, side and row; an object is made anew ahead of its 512th call. */
     private static void runFull(int seed) {
         Random random = new Random(seed);
-        CloudBench bench = new CloudBench();
         Plain plain = new Plain();
-        for (int i = 0; i < 20; i++) {
-            boolean edges = seed % 3 == 0;
-            int v = edges ? random.nextInt(2) * 1000 - 500 : seed % 3 == 1 ? random.nextInt(1001) - 500 : random.nextInt(9) - 4;
-            int w = edges ? random.nextInt(2) * 1000 - 500 : seed % 3 == 1 ? random.nextInt(1001) - 500 : random.nextInt(9) - 4;
-            compare(seed, i, bench, plain, call("put", 0, v));
-            compare(seed, i, bench, plain, call("put", 1, w));
-            compare(seed, i, bench, plain, call("put", 2, random.nextInt(60) * 17 - 500));
+        List<String[]> puts = fullSamples(seed, random);
+        CloudBench first = new CloudBench();
+        for (String[] put : puts) {
+            compare(seed, 0, first, plain, put);
         }
         for (int test = 0; test <= 5; test++) {
             for (int b = 1; b <= 2; b++) {
-                compare(seed, test, bench, plain, call("score", test, 0, b));
-                compare(seed, test, bench, plain, call("total", test, 0, b));
-                compare(seed, test, bench, plain, call("spread", test, 0, b));
-                for (int k = -1; k <= 2001; k++) {
-                    compare(seed, test, bench, plain, call("row", k, 0));
-                    compare(seed, test, bench, plain, call("row", k, 1));
-                }
+                compare(seed, test, first, plain, call("score", test, 0, b));
+                compare(seed, test, first, plain, call("total", test, 0, b));
                 for (int side = 0; side <= 2; side++) {
-                    compare(seed, test, bench, plain, call("count", test, 0, b, side));
-                    compare(seed, test, bench, plain, call("ask", test, 0, b, side));
+                    compare(seed, test, first, plain, call("count", test, 0, b, side));
                 }
+                fullRows(seed, puts, plain, call("spread", test, 0, b));
             }
+        }
+        fullList(seed, random, puts, plain);
+        CloudBench last = benchAfter(puts);
+        for (int u = -1; u <= 401; u++) {
+            compare(seed, u, last, plain, call("pairs", 0, 1, u));
+        }
+    }
+
+    private static List<String[]> fullSamples(int seed, Random random) {
+        List<String[]> puts = new ArrayList<>();
+        for (int i = 0; i < 20; i++) {
+            for (int sample = 0; sample <= 1; sample++) {
+                int v = seed % 3 == 0 ? random.nextInt(2) * 1000 - 500
+                        : seed % 3 == 1 ? random.nextInt(1001) - 500 : random.nextInt(9) - 4;
+                puts.add(call("put", sample, v));
+            }
+            puts.add(call("put", 2, random.nextInt(60) * 17 - 500));
+        }
+        return puts;
+    }
+
+    private static CloudBench benchAfter(List<String[]> calls) {
+        CloudBench bench = new CloudBench();
+        for (String[] call : calls) {
+            answer(bench, call[0], arguments(call));
+        }
+        return bench;
+    }
+
+    private static void fullRows(int seed, List<String[]> puts, Plain plain, String[] spread) {
+        if (plain.answer(spread[0], arguments(spread)).equals(NOT_ASKED)) {
+            compare(seed, 0, benchAfter(puts), plain, spread);
+            return;
+        }
+        int behind = Math.min(2000, plain.spread.size()) + 1;
+        for (int from = -1; from <= behind; from += 200) {
+            CloudBench bench = benchAfter(puts);
+            compare(seed, from, bench, plain, spread);
+            for (int k = from; k < from + 200 && k <= behind; k++) {
+                compare(seed, k, bench, plain, call("row", k, 0));
+                compare(seed, k, bench, plain, call("row", k, 1));
+            }
+        }
+    }
+
+    private static void fullList(int seed, Random random, List<String[]> puts, Plain plain) {
+        CloudBench bench = benchAfter(puts);
+        for (int i = 0; i < 36; i++) {
+            compare(seed, i, bench, plain, call("ask", i % 6, 0, 1 + i / 18, i / 6 % 3));
         }
         for (int q = 2; q <= 1000; q += 83) {
             compare(seed, q, bench, plain, call("span", 0, 1, 1 + random.nextInt(q - 1), q));
@@ -75,9 +115,14 @@ public final class PlainCountTest {
                 compare(seed, q, bench, plain, call("asked", i, 2));
             }
         }
-        for (int u = -1; u <= 401; u++) {
-            compare(seed, u, bench, plain, call("pairs", 0, 1, u));
+    }
+
+    private static int[] arguments(String[] call) {
+        int[] n = new int[5];
+        for (int k = 1; k < call.length; k++) {
+            n[k - 1] = Integer.parseInt(call[k]);
         }
+        return n;
     }
 
     private static String[] call(String name, int... arguments) {
@@ -145,10 +190,7 @@ public final class PlainCountTest {
     }
 
     private static void compare(int seed, int i, CloudBench bench, Plain plain, String[] call) {
-        int[] n = new int[5];
-        for (int k = 1; k < call.length; k++) {
-            n[k - 1] = Integer.parseInt(call[k]);
-        }
+        int[] n = arguments(call);
         String got = answer(bench, call[0], n);
         String want = plain.answer(call[0], n);
         if (!got.equals(want)) {
